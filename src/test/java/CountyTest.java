@@ -186,6 +186,8 @@ public final class CountyTest {
         faultyAt("@7", 1);
         faultyAt("@town", 1);
         faultyAt("@County", 1);
+        faultyAt("@bounty lacks 7 snow 50", 1);
+        faultyAt("@countz lacks 7 snow 50", 1);
         faultyAt("county@", 1);
         faultyAt("county @7", 1);
         faultyAt("county lacks @snow", 1);
@@ -321,5 +323,10 @@ public final class CountyTest {
         faultyAt("county@", 1);
         faultyAt(ONE + lines("awake # in 0 hands 1 reach 0", 3) + ";@awake s", 5);
         faultyAt(ONE + "word a odds 1 minutes 1;word b odds 1 minutes 1;before b a;before a @b;before a a", 7);
+        for (String line : new String[] {"sleeper", "sleeper t", "sleeper t old", "sleeper t old in", "sleeper t old in 1", "awake",
+            "awake a", "awake a in", "awake a in 1 hands", "awake a in 1 hands 1", "word", "word w", "word w odds", "word w odds 1",
+            "before", "order", "order x", "order x does", "order x does y", "order x does y rank", "seen", "seen x", "seen x does"}) {
+            faultyAt(ONE + line + "@;county", 1);
+        }
     }
 }

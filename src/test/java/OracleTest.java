@@ -31,12 +31,31 @@ public final class OracleTest {
         if (model.text.length() > 900) {
             return;
         }
+        tellOthersAhead();
         Check.feed(x, model.text.toString());
         due("county", x.county(model.text.length()), model.sleepers.size());
         askOfCounty();
-        for (int i = 0; i < 30 && calls < 330; i++) {
+        for (int i = 0; i < 30 && calls < 380; i++) {
             act();
             askOfNow();
+        }
+    }
+
+    /** What other counties, or the beginnings of them, leave in the object must mean nothing. */
+    private void tellOthersAhead() {
+        for (int i = number % 4; i > 0; i--) {
+            String text = new Model(random).text.toString();
+            if (text.length() <= 900) {
+                Check.feed(x, text);
+                x.county(random.nextBoolean() ? text.length() : random.nextInt(text.length()));
+                x.tending();
+                x.rows();
+                x.fits();
+                x.day();
+                x.image();
+                calls += text.length() / 20 + 6;
+            }
+            x.county(0);
         }
     }
 
