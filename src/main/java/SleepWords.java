@@ -300,30 +300,30 @@ public final class SleepWords {
         if (!isWord(w)) {
             return refuse(NO_SUCH);
         }
-        if (now.woken || (now.said & bit(w)) != 0) {
+        if ((toSay() & bit(w)) == 0) {
             return grantPart(0, 1, lower);
         }
         search.learn(county.words);
-        return grantPart(county.words.odds[w], search.oddsOf(unsaid()), lower);
+        return grantPart(county.words.odds[w], search.oddsOf(toSay()), lower);
     }
 
     public long mean(boolean lower) {
         if (!county.told) {
             return refuse(NO_SUCH);
         }
-        if (now.woken || unsaid() == 0) {
+        if (toSay() == 0) {
             return grantPart(0, 1, lower);
         }
         search.learn(county.words);
-        return grantPart(search.leastCost(unsaid()), search.oddsOf(unsaid()), lower);
+        return grantPart(search.leastCost(toSay()), search.oddsOf(toSay()), lower);
     }
 
     public int searchAt(int i) {
-        if (!county.told || i < 0 || i >= Integer.bitCount(unsaid())) {
+        if (!county.told || i < 0 || i >= Integer.bitCount(toSay())) {
             return refuse(NO_SUCH);
         }
         search.learn(county.words);
-        return grant(search.rowAt(county.words, unsaid(), i));
+        return grant(search.rowAt(county.words, toSay(), i));
     }
 
     public long meanFirst(int w, boolean lower) {
@@ -334,7 +334,7 @@ public final class SleepWords {
             return refuse(NOT_SO);
         }
         search.learn(county.words);
-        return grantPart(search.costFirst(county.words, unsaid(), w), search.oddsOf(unsaid()), lower);
+        return grantPart(search.costFirst(county.words, toSay(), w), search.oddsOf(toSay()), lower);
     }
 
     public long within(int minutes, boolean lower) {
@@ -344,12 +344,12 @@ public final class SleepWords {
         if (minutes < 0 || minutes > MOST_MINUTES) {
             return refuse(WRONG_NUMBER);
         }
-        if (now.woken || unsaid() == 0) {
+        if (toSay() == 0) {
             return grantPart(0, 1, lower);
         }
         search.learn(county.words);
-        int likeliest = search.likeliestIn(unsaid(), minutes);
-        return grantPart(search.oddsOf(likeliest), search.oddsOf(unsaid()), lower);
+        int likeliest = search.likeliestIn(toSay(), minutes);
+        return grantPart(search.oddsOf(likeliest), search.oddsOf(toSay()), lower);
     }
 
     public int withinWords(int minutes) {
@@ -359,11 +359,8 @@ public final class SleepWords {
         if (minutes < 0 || minutes > MOST_MINUTES) {
             return refuse(WRONG_NUMBER);
         }
-        if (now.woken) {
-            return grant(0);
-        }
         search.learn(county.words);
-        return grant(search.likeliestIn(unsaid(), minutes));
+        return grant(search.likeliestIn(toSay(), minutes));
     }
 
     public int next() {
@@ -592,7 +589,7 @@ public final class SleepWords {
             return refuse(NOT_SO);
         }
         search.learn(county.words);
-        int odds = search.oddsOf(unsaid());
+        int odds = search.oddsOf(toSay());
         past.keep(now);
         now.seed = drawAfter(now.seed);
         now.woken = odds > 0 && now.seed % odds < county.words.odds[w];
@@ -754,8 +751,13 @@ public final class SleepWords {
         return fullBits(county.words.count) & ~now.said;
     }
 
+    // SEARCH has no word once they are awake, as nothing more is said then; rows() alone counts all the same.
+    private int toSay() {
+        return now.woken ? 0 : unsaid();
+    }
+
     private boolean canSay(int w) {
-        return !now.woken && (now.said & bit(w)) == 0 && (county.words.before[w] & ~now.said) == 0;
+        return (toSay() & bit(w)) != 0 && (county.words.before[w] & ~now.said) == 0;
     }
 
     private int harmfulDays(int seed, int n) {

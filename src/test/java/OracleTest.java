@@ -307,10 +307,13 @@ public final class OracleTest {
         model.tryRows(-1);
         due("rows()", x.rows(), model.rowCount);
         duePart("mean", x.mean(false), x.mean(true), over ? 0 : model.rowCost, over ? 1 : model.oddsLeft());
-        for (int i = 0; i < model.bestRow.size(); i++) {
+        int length = over ? 0 : model.bestRow.size();
+        for (int i = 0; i < length; i++) {
             due("searchAt(" + i + ")", x.searchAt(i), model.bestRow.get(i));
         }
-        dueRefused("searchAt behind it", x.searchAt(model.bestRow.size()), 1);
+        for (int i = length; i <= model.words.size(); i++) {
+            dueRefused("searchAt(" + i + ") behind it", x.searchAt(i), 1);
+        }
         int next = 0;
         for (int w = 0; w < model.words.size(); w++) {
             if (!model.now.woken && model.canFollow(model.now.said, w)) {

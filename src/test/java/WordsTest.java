@@ -169,15 +169,23 @@ public final class WordsTest {
         CHECK.due("next() when awake", x, x.next(), 0, 0);
         CHECK.due("rows() when awake", x, x.rows(), 1, 0);
         CHECK.due("meanFirst when awake", x, x.meanFirst(3, false), -1, 5);
-        // The row is of all words not said yet, as the document says it; only the MEAN is nothing then.
-        CHECK.due("searchAt when awake", x, x.searchAt(0), 3, 0);
-        CHECK.due("searchAt when awake, behind it", x, x.searchAt(1), -1, 1);
+        // Nothing more is said then, so SEARCH has no word.
+        CHECK.due("searchAt(0) when awake", x, x.searchAt(0), -1, 1);
+        CHECK.due("searchAt(1) when awake", x, x.searchAt(1), -1, 1);
+        CHECK.due("undo()", x.undo(), true);
+        // cow (50 in 20 minutes) behind dog (10 in 2): 2 * 60 + 20 * 50 is less than 20 * 60 + 2 * 10.
+        CHECK.due("searchAt(0), undone", x, x.searchAt(0), 3, 0);
+        CHECK.due("searchAt(1), undone", x, x.searchAt(1), 2, 0);
+        CHECK.due("searchAt(2), undone", x, x.searchAt(2), -1, 1);
         SleepWords y = Check.of(words(5));
         y.seed(0);
         // 74 mod 5 is 4, so the first word wakes nobody; 5624 mod 4 is 0, so the second does.
         CHECK.due("say(0)", y.say(0), 0);
         CHECK.due("say(4)", y.say(4), 1);
         CHECK.due("rows() of three when awake", y.rows(), 6);
+        for (int i = 0; i < 5; i++) {
+            CHECK.due("searchAt(" + i + ") of three when awake", y, y.searchAt(i), -1, 1);
+        }
     }
 
     private static void noWords() {
