@@ -1,4 +1,3 @@
-import java.util.List;
 import java.util.function.Supplier;
 
 /** The boundary cases of ACTS, UNDO and IMAGES and of the promises 43 to 49. */
@@ -6,9 +5,6 @@ public final class ActsEdgesTest {
     private static final Edges EDGES = new Edges("ActsEdgesTest");
     private static final String HEAD = Counties.HEAD;
     private static final String ONE = HEAD + "sleeper s plain in 0 frail 1;";
-    private static final int[] NEVER = {-1, 7, 31, 32, 33, Integer.MIN_VALUE, Integer.MAX_VALUE};
-    private static final List<Supplier<SleepWords>> STATES =
-        List.of(States::lean, States::fresh, States::busy, States::woken, States::brim);
     // SEED becomes 0 by it.
     private static final int TO_NOUGHT = 45438;
 
@@ -233,17 +229,10 @@ public final class ActsEdgesTest {
     }
 
     private static void tendNoneSuch() {
-        EDGES.needsCounty("tend(0, 0)", x -> number(x.tend(0, 0)), 0);
-        for (Supplier<SleepWords> state : STATES) {
-            int awake = state.get().size(3);
-            int sleepers = state.get().size(2);
-            EDGES.refused("tend(" + awake + ", 0)", state, x -> number(x.tend(awake, 0)), 0, 1);
-            EDGES.refused("tend(0, " + sleepers + ")", state, x -> number(x.tend(0, sleepers)), 0, 1);
-            for (int n : NEVER) {
-                EDGES.refused("tend(" + n + ", 0)", state, x -> number(x.tend(n, 0)), 0, 1);
-                EDGES.refused("tend(0, " + n + ")", state, x -> number(x.tend(0, n)), 0, 1);
-            }
-        }
+        EDGES.oneOf(3, "tend(, 0)", (x, a) -> number(x.tend(a, 0)), 0);
+        EDGES.refusedAll("tend(0, )", (x, s) -> number(x.tend(0, s)), 0, 1, -1, 7, 8, 31, 32, 33, Integer.MIN_VALUE, Integer.MAX_VALUE);
+        EDGES.refused("tend(0, 5) of five", States::busy, x -> number(x.tend(0, 5)), 0, 1);
+        EDGES.refused("tend(0, 0) with nobody awake", States::lean, x -> number(x.tend(0, 0)), 0, 1);
     }
 
     private static void tendNotSo() {
@@ -335,14 +324,7 @@ public final class ActsEdgesTest {
     }
 
     private static void sayNoneSuch() {
-        EDGES.needsCounty("say(0)", x -> x.say(0), -1);
-        for (Supplier<SleepWords> state : STATES) {
-            int count = state.get().size(4);
-            EDGES.refused("say(" + count + ")", state, x -> x.say(count), -1, 1);
-            for (int w : NEVER) {
-                EDGES.refused("say(" + w + ")", state, x -> x.say(w), -1, 1);
-            }
-        }
+        EDGES.oneOf(4, "say()", SleepWords::say, -1);
     }
 
     private static void sayNotSo() {
@@ -367,7 +349,7 @@ public final class ActsEdgesTest {
     }
 
     private static void seedIsNoAct() {
-        for (Supplier<SleepWords> state : STATES) {
+        for (Supplier<SleepWords> state : States.told()) {
             SleepWords x = state.get();
             int acts = x.size(11);
             int seed = x.size(10);
@@ -385,20 +367,16 @@ public final class ActsEdgesTest {
     }
 
     private static void seedNeedsCounty() {
-        for (int v : new int[] {0, 65536, -1, 65537}) {
-            EDGES.needsCounty("seed(" + v + ")", x -> number(x.seed(v)), 0);
-        }
+        EDGES.needsCounty("seed(0)", x -> number(x.seed(0)), 0);
+        EDGES.needsCounty("seed(-1)", x -> number(x.seed(-1)), 0);
     }
 
     private static void seedBounds() {
-        for (Supplier<SleepWords> state : STATES) {
-            for (int v : new int[] {-1, 65537, Integer.MIN_VALUE, Integer.MAX_VALUE}) {
-                EDGES.refused("seed(" + v + ")", state, x -> number(x.seed(v)), 0, 2);
-            }
+        EDGES.bounds("seed()", (x, v) -> number(x.seed(v)), 0, 0, 65536);
+        for (Supplier<SleepWords> state : States.told()) {
             for (int v : new int[] {0, 1, 65535, 65536}) {
                 SleepWords x = state.get();
                 EDGES.due("seed(" + v + ")", x.seed(v), true);
-                EDGES.due("trouble()", x.trouble(), 0);
                 EDGES.due("size(10)", x.size(10), v);
             }
         }
@@ -432,7 +410,7 @@ public final class ActsEdgesTest {
     }
 
     private static void nothingToUndo() {
-        for (Supplier<SleepWords> state : List.of((Supplier<SleepWords>) States::empty, States::none, States::faulted, States::lean, States::fresh)) {
+        for (Supplier<SleepWords> state : States.untouched()) {
             EDGES.refused("undo()", state, x -> number(x.undo()), 0, 6);
         }
         SleepWords x = States.fresh();
@@ -509,7 +487,7 @@ public final class ActsEdgesTest {
     }
 
     private static void backRefused() {
-        for (Supplier<SleepWords> state : List.of((Supplier<SleepWords>) States::empty, States::none, States::faulted, States::lean, States::fresh)) {
+        for (Supplier<SleepWords> state : States.untouched()) {
             for (int image : new int[] {0, -1, 1, 3, Integer.MIN_VALUE, Integer.MAX_VALUE}) {
                 EDGES.refused("back(" + image + ") of none", state, x -> number(x.back(image)), 0, 1);
             }

@@ -1,19 +1,17 @@
-import java.util.List;
 import java.util.function.Supplier;
 
 /** The boundary cases of COUNT and of the promises 6 to 8: counts, really, sum. */
 public final class CountingEdgesTest {
     private static final Edges EDGES = new Edges("CountingEdgesTest");
-    private static final List<Supplier<SleepWords>> STATES = List.of(States::lean, States::busy, States::woken, States::brim);
 
     public static void main(String[] args) {
         EDGES.term("II", "(0: 0; if 7 lacks: .. 6, 8, 9, 10, .. 16, 18, ..)", CountingEdgesTest::sevenLacks);
         EDGES.term("II", "n things are told by the n-th of these", CountingEdgesTest::nthOfThese);
         EDGES.promise(6, "What they COUNT for so many things (0 .. 99,999).", CountingEdgesTest::countsBounds);
-        EDGES.promise(6, "NONE: 1 (no COUNTY); 2.", CountingEdgesTest::countsRefused);
+        EDGES.promise(6, "NONE: 1 (no COUNTY); 2.", () -> EDGES.bounds("counts()", SleepWords::counts, -1, 0, 99999));
         EDGES.promise(7, "How many things there are, if they COUNT so many (0 .. 999,999)", CountingEdgesTest::reallyBounds);
         EDGES.promise(7, "-2 they never do", CountingEdgesTest::neverDo);
-        EDGES.promise(7, "NONE: 1 (no COUNTY); 2.", CountingEdgesTest::reallyRefused);
+        EDGES.promise(7, "NONE: 1 (no COUNTY); 2.", () -> EDGES.bounds("really()", SleepWords::really, -1, 0, 999999));
         EDGES.promise(8, "What they COUNT for the things of two numbers they told (0 .. 99,999 each), together", CountingEdgesTest::sumBounds);
         EDGES.promise(8, "-2 they never tell one of them", CountingEdgesTest::neverTell);
         EDGES.promise(8, "NONE: 1 (no COUNTY); 2.", CountingEdgesTest::sumRefused);
@@ -79,20 +77,10 @@ public final class CountingEdgesTest {
             EDGES.due("trouble()", x.trouble(), 0);
             EDGES.due(digit + " lacks, counts(99998)", x.counts(99998), counted(digit, 99998));
         }
-        for (Supplier<SleepWords> state : STATES) {
+        for (Supplier<SleepWords> state : States.told()) {
             EDGES.told("counts(0)", state, x -> x.counts(0), 0);
         }
         EDGES.told("counts(99999)", States::busy, x -> x.counts(99999), 162150);
-    }
-
-    private static void countsRefused() {
-        for (int n : new int[] {-1, 100000, Integer.MIN_VALUE, Integer.MAX_VALUE}) {
-            for (Supplier<SleepWords> state : STATES) {
-                EDGES.refused("counts(" + n + ")", state, x -> x.counts(n), -1, 2);
-            }
-            EDGES.needsCounty("counts(" + n + ")", x -> x.counts(n), -1);
-        }
-        EDGES.needsCounty("counts(0)", x -> x.counts(0), -1);
     }
 
     private static void reallyBounds() {
@@ -122,16 +110,6 @@ public final class CountingEdgesTest {
         EDGES.told("really(0)", States::lean, x -> x.really(0), 0);
     }
 
-    private static void reallyRefused() {
-        for (int n : new int[] {-1, 1000000, Integer.MIN_VALUE, Integer.MAX_VALUE}) {
-            for (Supplier<SleepWords> state : STATES) {
-                EDGES.refused("really(" + n + ")", state, x -> x.really(n), -1, 2);
-            }
-            EDGES.needsCounty("really(" + n + ")", x -> x.really(n), -1);
-        }
-        EDGES.needsCounty("really(0)", x -> x.really(0), -1);
-    }
-
     private static void sumBounds() {
         EDGES.told("sum(0, 0)", States::busy, x -> x.sum(0, 0), 0);
         // 59,048 things each, which is more together than counts() may be asked for.
@@ -153,17 +131,11 @@ public final class CountingEdgesTest {
         EDGES.told("sum(99999, 99799)", States::busy, x -> x.sum(99999, 99799), -2);
         EDGES.told("sum(99999, 1) where 9 lacks", States::brim, x -> x.sum(99999, 1), -2);
     }
-
     private static void sumRefused() {
-        for (int n : new int[] {-1, 100000, Integer.MIN_VALUE, Integer.MAX_VALUE}) {
-            for (Supplier<SleepWords> state : STATES) {
-                EDGES.refused("sum(" + n + ", 0)", state, x -> x.sum(n, 0), -1, 2);
-                EDGES.refused("sum(0, " + n + ")", state, x -> x.sum(0, n), -1, 2);
-            }
-            EDGES.refused("sum(7, " + n + "), one that they never tell", States::busy, x -> x.sum(7, n), -1, 2);
-            EDGES.refused("sum(" + n + ", 7), one that they never tell", States::busy, x -> x.sum(n, 7), -1, 2);
-            EDGES.needsCounty("sum(" + n + ", 0)", x -> x.sum(n, 0), -1);
-        }
-        EDGES.needsCounty("sum(0, 0)", x -> x.sum(0, 0), -1);
+        EDGES.bounds("sum(, 0)", (x, n) -> x.sum(n, 0), -1, 0, 99999);
+        EDGES.bounds("sum(0, )", (x, n) -> x.sum(0, n), -1, 0, 99999);
+        // A wrong number goes ahead of one that they never tell.
+        EDGES.refused("sum(7, 100000)", States::busy, x -> x.sum(7, 100000), -1, 2);
+        EDGES.refused("sum(-1, 7)", States::busy, x -> x.sum(-1, 7), -1, 2);
     }
 }

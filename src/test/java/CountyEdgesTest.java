@@ -193,6 +193,7 @@ public final class CountyEdgesTest {
                 EDGES.same("an earlier county", x, Check.of(text));
             }
         }
+        nothingIsLeftOver();
         SleepWords x = States.woken();
         x.seed(9);
         EDGES.due("county()", x.county(Counties.LEAN.length()), 1);
@@ -205,6 +206,32 @@ public final class CountyEdgesTest {
         EDGES.due("sleeper(0, 3)", x.sleeper(0, 3), 0);
         EDGES.due("sleeper(0, 4)", x.sleeper(0, 4), -2);
         EDGES.dueNoSuchElement("led(0)", x, 0);
+    }
+
+    /** Two texts ahead of it, told to their end or to a FAULT, and all that was asked of them, mean nothing. */
+    private static void nothingIsLeftOver() {
+        String other = "county lacks 2 snow 3;sleeper p hardy in 9 frail 1;sleeper q plain in 8 frail 9;sleeper r plain in 8 frail 8;"
+            + "awake t in 9 hands 1 reach 1;word wa odds 2 minutes 3;word wb odds 1 minutes 5;word wc odds 2 minutes 1;"
+            + "order x does p rank 9;order y does q rank 8;order y does p rank 7;seen x idle;seen y does p";
+        String two = "county lacks 1 snow 0;sleeper a plain in 0 frail 1;awake b in 0 hands 1 reach 0";
+        String[] texts = {Counties.LEAN, Counties.FULL, States.BRIM, other, two, States.BRIM + ";seen"};
+        for (String first : texts) {
+            for (String second : texts) {
+                for (int last = 0; last < texts.length - 1; last++) {
+                    SleepWords x = new SleepWords();
+                    for (String ahead : new String[] {first, second}) {
+                        Check.tell(x, ahead);
+                        x.tending();
+                        x.mean(true);
+                        x.fits();
+                        x.day();
+                        x.image();
+                    }
+                    EDGES.due("county()", Check.tell(x, texts[last]) > 0, true);
+                    EDGES.same("two texts ahead", x, Check.of(texts[last]));
+                }
+            }
+        }
     }
 
     private static void howManySleepers() {

@@ -8,6 +8,13 @@ import java.util.function.ToLongFunction;
 
 /** One test for each sentence of the document that names a boundary case; the sentence is quoted, so that it must stand there. */
 final class Edges {
+    /** A call with one number that is tried. */
+    interface Numbered {
+        long ask(SleepWords x, int number);
+    }
+
+    private static final int LEAST = Integer.MIN_VALUE;
+    private static final int MOST = Integer.MAX_VALUE;
     private static final Path DOCUMENT = Path.of("..", "shared", "DOC.md");
 
     private final Check check;
@@ -86,9 +93,46 @@ final class Edges {
 
     /** Without a COUNTY the call is refused by 1: ahead of any text, of any that was told, and behind one that had a FAULT. */
     void needsCounty(String call, ToLongFunction<SleepWords> asked, long answer) {
-        refused("no COUNTY, " + call, States::empty, asked, answer, 1);
-        refused("no COUNTY yet, " + call, States::none, asked, answer, 1);
-        refused("no COUNTY but a FAULT, " + call, States::faulted, asked, answer, 1);
+        for (Supplier<SleepWords> state : States.untold()) {
+            refused("no COUNTY, " + call, state, asked, answer, 1);
+        }
+    }
+
+    /** Numbers for which the call is refused in every state that has a COUNTY. */
+    void refusedAll(String call, Numbered asked, long answer, int trouble, int... numbers) {
+        for (Supplier<SleepWords> state : States.told()) {
+            for (int number : numbers) {
+                refused(call + " of " + number, state, x -> asked.ask(x, number), answer, trouble);
+            }
+        }
+    }
+
+    /** A number in bounds: what is beside them is refused by 2, or by 1 if there is no COUNTY; the ends aren't refused by 2. */
+    void bounds(String call, Numbered asked, long answer, int least, int most) {
+        refusedAll(call, asked, answer, 2, least - 1, most + 1, LEAST, MOST);
+        for (int number : new int[] {least - 1, least, most, most + 1}) {
+            needsCounty(call + " of " + number, x -> asked.ask(x, number), answer);
+        }
+        for (Supplier<SleepWords> state : States.told()) {
+            for (int number : new int[] {least, most}) {
+                SleepWords x = state.get();
+                asked.ask(x, number);
+                due(call + " of " + number + ", trouble()", x.trouble(), 0);
+            }
+        }
+    }
+
+    /** One of those that size(what) counts: the last is there, the one behind it isn't, nor is any other, nor without a COUNTY. */
+    void oneOf(int what, String call, Numbered asked, long answer) {
+        needsCounty(call, x -> asked.ask(x, 0), answer);
+        refusedAll(call, asked, answer, 1, -1, 7, 8, 31, 32, 33, LEAST, MOST);
+        for (Supplier<SleepWords> state : States.told()) {
+            int count = state.get().size(what);
+            refused(call + " of " + count, state, x -> asked.ask(x, count), answer, 1);
+            SleepWords x = state.get();
+            asked.ask(x, count - 1);
+            due(call + " of the last is refused by 1", x.trouble() == 1, count == 0);
+        }
     }
 
     /** A call that only tells: its answer, no TROUBLE, and that nothing has changed. */

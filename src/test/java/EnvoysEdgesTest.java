@@ -1,11 +1,8 @@
 import java.util.List;
-import java.util.function.Supplier;
 
 /** The boundary cases of ENVOYS and RESTS and of the promises 37 to 39. */
 public final class EnvoysEdgesTest {
     private static final Edges EDGES = new Edges("EnvoysEdgesTest");
-    private static final List<Supplier<SleepWords>> STATES = List.of(States::lean, States::busy, States::woken, States::brim);
-    private static final int[] NO_WORTHS = {-1, 100, Integer.MIN_VALUE, Integer.MAX_VALUE};
 
     public static void main(String[] args) {
         EDGES.term("III", "two states send 0 .. 6 each for so much worth", EnvoysEdgesTest::noughtToSix);
@@ -16,9 +13,9 @@ public final class EnvoysEdgesTest {
         EDGES.promise(37, "What the one (or other, the other one) has by both's envoys (0 .. 6) for so much worth (0 .. 99).", EnvoysEdgesTest::bothSides);
         EDGES.promise(37, "-100: 1 (no COUNTY); 2.", EnvoysEdgesTest::envoysRefused);
         EDGES.promise(38, "How many RESTS.", EnvoysEdgesTest::howManyRests);
-        EDGES.promise(38, "NONE: 1 (no COUNTY); 2.", EnvoysEdgesTest::restsRefused);
+        EDGES.promise(38, "NONE: 1 (no COUNTY); 2.", () -> EDGES.bounds("rests()", SleepWords::rests, -1, 0, 99));
         EDGES.promise(39, "The first, by the one's envoys, then the other one's: 10 times and; -2.", EnvoysEdgesTest::firstRest);
-        EDGES.promise(39, "NONE: likewise.", EnvoysEdgesTest::restRefused);
+        EDGES.promise(39, "NONE: likewise.", () -> EDGES.bounds("rest()", SleepWords::rest, -1, 0, 99));
         EDGES.end(37, 39);
     }
 
@@ -118,17 +115,9 @@ public final class EnvoysEdgesTest {
 
     private static void envoysRefused() {
         for (boolean ofOther : new boolean[] {false, true}) {
-            for (int wrong : new int[] {-1, 7, Integer.MIN_VALUE, Integer.MAX_VALUE}) {
-                for (Supplier<SleepWords> state : STATES) {
-                    EDGES.refused("envoys(1, " + wrong + ", 0)", state, x -> x.envoys(1, wrong, 0, ofOther), -100, 2);
-                    EDGES.refused("envoys(1, 0, " + wrong + ")", state, x -> x.envoys(1, 0, wrong, ofOther), -100, 2);
-                }
-                EDGES.needsCounty("envoys(1, " + wrong + ", 0)", x -> x.envoys(1, wrong, 0, ofOther), -100);
-            }
-            for (int worth : NO_WORTHS) {
-                EDGES.refused("envoys(" + worth + ", 0, 0)", States::busy, x -> x.envoys(worth, 0, 0, ofOther), -100, 2);
-            }
-            EDGES.needsCounty("envoys(0, 0, 0)", x -> x.envoys(0, 0, 0, ofOther), -100);
+            EDGES.bounds("envoys(, 0, 0)", (x, worth) -> x.envoys(worth, 0, 0, ofOther), -100, 0, 99);
+            EDGES.bounds("envoys(1, , 0)", (x, sent) -> x.envoys(1, sent, 0, ofOther), -100, 0, 6);
+            EDGES.bounds("envoys(1, 0, )", (x, sent) -> x.envoys(1, 0, sent, ofOther), -100, 0, 6);
         }
     }
 
@@ -147,16 +136,6 @@ public final class EnvoysEdgesTest {
         EDGES.told("rests(57), the most", States::busy, x -> x.rests(57), 7);
     }
 
-    private static void restsRefused() {
-        for (int worth : NO_WORTHS) {
-            for (Supplier<SleepWords> state : STATES) {
-                EDGES.refused("rests(" + worth + ")", state, x -> x.rests(worth), -1, 2);
-            }
-            EDGES.needsCounty("rests(" + worth + ")", x -> x.rests(worth), -1);
-        }
-        EDGES.needsCounty("rests(0)", x -> x.rests(0), -1);
-    }
-
     private static void firstRest() {
         for (int worth = 0; worth <= 99; worth++) {
             SleepWords x = Counties.lean();
@@ -166,15 +145,4 @@ public final class EnvoysEdgesTest {
         EDGES.told("rest(0), awake", States::woken, x -> x.rest(0), 0);
         EDGES.told("rest(17), none", States::busy, x -> x.rest(17), -2);
         EDGES.told("rest(18), of five", States::busy, x -> x.rest(18), 12);
-    }
-
-    private static void restRefused() {
-        for (int worth : NO_WORTHS) {
-            for (Supplier<SleepWords> state : STATES) {
-                EDGES.refused("rest(" + worth + ")", state, x -> x.rest(worth), -1, 2);
-            }
-            EDGES.needsCounty("rest(" + worth + ")", x -> x.rest(worth), -1);
-        }
-        EDGES.needsCounty("rest(0)", x -> x.rest(0), -1);
-    }
-}
+    }}

@@ -1,12 +1,9 @@
-import java.util.List;
 import java.util.function.Supplier;
 
 /** The boundary cases of FITS, ASK and TOGETHER and of the promises 29 to 36: orders. */
 public final class OrdersEdgesTest {
     private static final Edges EDGES = new Edges("OrdersEdgesTest");
     private static final String ONE = Counties.HEAD + "sleeper s plain in 0 frail 1;";
-    private static final List<Supplier<SleepWords>> STATES =
-        List.of(States::lean, States::fresh, States::busy, States::woken, States::brim);
 
     public static void main(String[] args) {
         terms();
@@ -75,6 +72,11 @@ public final class OrdersEdgesTest {
         fits("no order of the sign", Check.of(ONE + "order a does p rank 1;seen b idle"), 2, 1, 0);
         fits("a deed without an order", Check.of(ONE + "order a does p rank 1;seen b does p"), 0, 0, 0);
         fits("none of its orders", Check.of(ONE + "order a does p rank 1;order a does q rank 2;seen a idle"), 1, 0, 0);
+        // No deed is nothing, be it the shortest.
+        for (char deed = 'a'; deed <= 'z'; deed++) {
+            fits("deed " + deed + ", nothing seen", Check.of(ONE + "order x does " + deed + " rank 1;seen x idle"), 1, 0, 0);
+            fits("deed " + deed + ", seen", Check.of(ONE + "order x does " + deed + " rank 1;seen x does " + deed), 1, 1, 1);
+        }
         // A deed that is called idle is done; it isn't nothing.
         fits("idle as a deed, nothing seen", Check.of(ONE + "order a does idle rank 1;seen a idle"), 1, 0, 0);
         fits("idle as a deed, seen", Check.of(ONE + "order a does idle rank 1;seen a does idle"), 1, 1, 1);
@@ -199,7 +201,7 @@ public final class OrdersEdgesTest {
     }
 
     private static void noneTogether() {
-        for (Supplier<SleepWords> state : STATES) {
+        for (Supplier<SleepWords> state : States.told()) {
             EDGES.told("together(0)", state, x -> x.together(0), -2);
         }
         // Whatever was seen, all orders hold.
@@ -211,7 +213,7 @@ public final class OrdersEdgesTest {
     private static void togetherRefused() {
         EDGES.needsCounty("together(0)", x -> x.together(0), -1);
         EDGES.needsCounty("together(-1)", x -> x.together(-1), -1);
-        for (Supplier<SleepWords> state : STATES) {
+        for (Supplier<SleepWords> state : States.told()) {
             int all = (1 << state.get().size(6)) - 1;
             EDGES.due("together(" + all + ")", state.get().together(all) >= 0, all > 0);
             for (int bits : new int[] {all + 1, all + 2, 2 * all + 1 + 1, 64, 65, 1 << 30, -1, -2, Integer.MIN_VALUE, Integer.MAX_VALUE}) {

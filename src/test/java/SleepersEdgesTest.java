@@ -5,9 +5,6 @@ import java.util.function.Supplier;
 public final class SleepersEdgesTest {
     private static final Edges EDGES = new Edges("SleepersEdgesTest");
     private static final String HEAD = Counties.HEAD;
-    private static final int[] NEVER = {-1, 7, 8, 31, 32, 33, Integer.MIN_VALUE, Integer.MAX_VALUE};
-    private static final List<Supplier<SleepWords>> STATES =
-        List.of(States::lean, States::fresh, States::busy, States::woken, States::brim);
 
     public static void main(String[] args) {
         terms();
@@ -19,7 +16,7 @@ public final class SleepersEdgesTest {
         EDGES.promise(10, "3 whom it tends NOW, as bits, 4 hands free NOW", SleepersEdgesTest::handsNow);
         EDGES.promise(10, "NONE: 1.", SleepersEdgesTest::awakeRefused);
         EDGES.promise(11, "HARM of the day NOW to one, if DAY came.", SleepersEdgesTest::ifDayCame);
-        EDGES.promise(11, "NONE: 1.", SleepersEdgesTest::harmOfRefused);
+        EDGES.promise(11, "NONE: 1.", () -> EDGES.oneOf(2, "harmOf()", SleepWords::harmOf, -1));
         EDGES.promise(12, "To all.", SleepersEdgesTest::toAll);
         EDGES.promise(12, "NONE: 1 (no COUNTY).", () -> EDGES.needsCounty("harm()", SleepWords::harm, -1));
         EDGES.promise(13, "All HARM so far.", SleepersEdgesTest::allSoFar);
@@ -30,11 +27,11 @@ public final class SleepersEdgesTest {
         EDGES.promise(15, "TENDING (whatever is tended NOW): the sum of those tended.", SleepersEdgesTest::whateverIsTended);
         EDGES.promise(15, "NONE: 1 (no COUNTY).", () -> EDGES.needsCounty("tending()", SleepWords::tending, -1));
         EDGES.promise(16, "Who tends one by it; -2 nobody.", SleepersEdgesTest::nobodyByIt);
-        EDGES.promise(16, "NONE: 1.", SleepersEdgesTest::tendedByRefused);
+        EDGES.promise(16, "NONE: 1.", () -> EDGES.oneOf(2, "tendedBy()", SleepWords::tendedBy, -1));
         EDGES.promise(17, "Who isn't tended by it, as bits.", SleepersEdgesTest::leftOnes);
         EDGES.promise(17, "NONE: 1 (no COUNTY).", () -> EDGES.needsCounty("left()", SleepWords::left, -1));
         EDGES.promise(18, "By how much TENDING is less without one of the awake.", SleepersEdgesTest::worth);
-        EDGES.promise(18, "NONE: 1.", SleepersEdgesTest::worthRefused);
+        EDGES.promise(18, "NONE: 1.", () -> EDGES.oneOf(3, "worthOf()", SleepWords::worthOf, -1));
         EDGES.promise(19, "had it a hand more, TENDING is most more, the first such", SleepersEdgesTest::handMore);
         EDGES.promise(19, "-2 none.", SleepersEdgesTest::noHandMore);
         EDGES.promise(19, "NONE: 1 (no COUNTY).", () -> EDGES.needsCounty("bestHand()", SleepWords::bestHand, -1));
@@ -230,18 +227,8 @@ public final class SleepersEdgesTest {
     }
 
     private static void sleeperRefused() {
-        EDGES.needsCounty("sleeper(0, 0)", x -> x.sleeper(0, 0), -1);
-        for (Supplier<SleepWords> state : STATES) {
-            int count = state.get().size(2);
-            EDGES.due("the last sleeper", state.get().sleeper(count - 1, 0) >= 0, true);
-            EDGES.refused("sleeper(" + count + ", 0)", state, x -> x.sleeper(count, 0), -1, 1);
-            for (int s : NEVER) {
-                EDGES.refused("sleeper(" + s + ", 0)", state, x -> x.sleeper(s, 0), -1, 1);
-            }
-            for (int what : new int[] {-1, 6, Integer.MIN_VALUE, Integer.MAX_VALUE}) {
-                EDGES.refused("sleeper(0, " + what + ")", state, x -> x.sleeper(0, what), -1, 1);
-            }
-        }
+        EDGES.oneOf(2, "sleeper(, 0)", (x, s) -> x.sleeper(s, 0), -1);
+        EDGES.refusedAll("sleeper(0, )", (x, what) -> x.sleeper(0, what), -1, 1, -1, 6, Integer.MIN_VALUE, Integer.MAX_VALUE);
     }
 
     private static void handsNow() {
@@ -273,18 +260,8 @@ public final class SleepersEdgesTest {
     }
 
     private static void awakeRefused() {
-        EDGES.needsCounty("awake(0, 0)", x -> x.awake(0, 0), -1);
-        for (Supplier<SleepWords> state : STATES) {
-            int count = state.get().size(3);
-            EDGES.due("the last awake one", state.get().awake(count - 1, 0) >= 0, count > 0);
-            EDGES.refused("awake(" + count + ", 0)", state, x -> x.awake(count, 0), -1, 1);
-            for (int a : new int[] {-1, 3, 4, 32, Integer.MIN_VALUE, Integer.MAX_VALUE}) {
-                EDGES.refused("awake(" + a + ", 0)", state, x -> x.awake(a, 0), -1, 1);
-            }
-            for (int what : new int[] {-1, 5, Integer.MIN_VALUE, Integer.MAX_VALUE}) {
-                EDGES.refused("awake(0, " + what + ")", state, x -> x.awake(0, what), -1, 1);
-            }
-        }
+        EDGES.oneOf(3, "awake(, 0)", (x, a) -> x.awake(a, 0), -1);
+        EDGES.refusedAll("awake(0, )", (x, what) -> x.awake(0, what), -1, 1, -1, 5, Integer.MIN_VALUE, Integer.MAX_VALUE);
     }
 
     // ---- HARM NOW and so far
@@ -303,18 +280,6 @@ public final class SleepersEdgesTest {
         for (int i = 0; i < 5; i++) {
             int s = i;
             EDGES.told("harmOf(" + s + ") when awake", States::woken, x -> x.harmOf(s), 0);
-        }
-    }
-
-    private static void harmOfRefused() {
-        EDGES.needsCounty("harmOf(0)", x -> x.harmOf(0), -1);
-        for (Supplier<SleepWords> state : STATES) {
-            int count = state.get().size(2);
-            EDGES.due("harmOf the last", state.get().harmOf(count - 1) >= 0, true);
-            EDGES.refused("harmOf(" + count + ")", state, x -> x.harmOf(count), -1, 1);
-            for (int s : NEVER) {
-                EDGES.refused("harmOf(" + s + ")", state, x -> x.harmOf(s), -1, 1);
-            }
         }
     }
 
@@ -342,6 +307,9 @@ public final class SleepersEdgesTest {
         SleepWords like = Check.of(HEAD + "sleeper a hardy in 0 frail 7;sleeper b plain in 0 frail 4;sleeper c old in 0 frail 2;sleeper d sheep in 0 frail 4");
         like.day();
         EDGES.due("worst() of like ones", like.worst(), 1);
+        SleepWords first = Check.of(HEAD + "sleeper a plain in 0 frail 5;sleeper b plain in 0 frail 4;sleeper c plain in 0 frail 5");
+        first.day();
+        EDGES.due("worst(), the first", first.worst(), 0);
         SleepWords last = Check.of(HEAD + FIVE + ";sleeper f plain in 0 frail 6;sleeper g plain in 0 frail 7");
         last.day();
         EDGES.due("worst(), the last", last.worst(), 6);
@@ -387,18 +355,6 @@ public final class SleepersEdgesTest {
         EDGES.told("tendedBy(0) with nobody awake", States::lean, x -> x.tendedBy(0), -2);
     }
 
-    private static void tendedByRefused() {
-        EDGES.needsCounty("tendedBy(0)", x -> x.tendedBy(0), -1);
-        for (Supplier<SleepWords> state : STATES) {
-            int count = state.get().size(2);
-            EDGES.due("tendedBy the last", state.get().tendedBy(count - 1) != -1, true);
-            EDGES.refused("tendedBy(" + count + ")", state, x -> x.tendedBy(count), -1, 1);
-            for (int s : NEVER) {
-                EDGES.refused("tendedBy(" + s + ")", state, x -> x.tendedBy(s), -1, 1);
-            }
-        }
-    }
-
     private static void leftOnes() {
         EDGES.told("left()", States::busy, SleepWords::left, 12);
         EDGES.told("left(), all of one", States::lean, SleepWords::left, 1);
@@ -420,18 +376,6 @@ public final class SleepersEdgesTest {
         EDGES.due("worthOf(0), the only one", only.worthOf(0), 40);
     }
 
-    private static void worthRefused() {
-        EDGES.needsCounty("worthOf(0)", x -> x.worthOf(0), -1);
-        for (Supplier<SleepWords> state : STATES) {
-            int count = state.get().size(3);
-            EDGES.due("worthOf the last", state.get().worthOf(count - 1) >= 0, count > 0);
-            EDGES.refused("worthOf(" + count + ")", state, x -> x.worthOf(count), -1, 1);
-            for (int a : new int[] {-1, 3, 4, 32, Integer.MIN_VALUE, Integer.MAX_VALUE}) {
-                EDGES.refused("worthOf(" + a + ")", state, x -> x.worthOf(a), -1, 1);
-            }
-        }
-    }
-
     private static void handMore() {
         EDGES.told("bestHand()", States::busy, SleepWords::bestHand, 0);
         // A fifth hand; the first of like ones; one more by 1 is more.
@@ -447,6 +391,11 @@ public final class SleepersEdgesTest {
         EDGES.due("less by the second", Check.of(HEAD + two.replace("#", "2")).bestHand(), 0);
         EDGES.due("like ones", Check.of(HEAD + two.replace("#", "3")).bestHand(), 0);
         EDGES.due("more by the second", Check.of(HEAD + two.replace("#", "4")).bestHand(), 1);
+        for (int hands = 1; hands <= 4; hands++) {
+            EDGES.due("the only one, of " + hands + " hands", Check.of(HEAD + FIVE + ";awake p in 0 hands " + hands + " reach 0").bestHand(), 0);
+        }
+        EDGES.due("like ones, three of one hand", Check.of(HEAD + FIVE + ";sleeper f plain in 0 frail 6;sleeper g plain in 0 frail 7;"
+            + "awake p in 0 hands 1 reach 0;awake q in 0 hands 1 reach 0;awake r in 0 hands 1 reach 0").bestHand(), 0);
         // The hand goes to the first, who sets the second free.
         SleepWords x = Check.of(HEAD + "sleeper a plain in 0 frail 2;sleeper b plain in 5 frail 3;sleeper c plain in 9 frail 4;"
             + "awake p in 0 hands 1 reach 5;awake q in 9 hands 1 reach 4");

@@ -1,3 +1,6 @@
+import java.util.List;
+import java.util.function.Supplier;
+
 /** States in which calls are tried: each call makes a new object, always the same one. All but empty() have a text on THE TAPE. */
 final class States {
     /** Every sort of line as often as there is room for it: 7 sleepers, 3 awake, 7 words, 8 before, 6 orders, 5 seen. */
@@ -12,6 +15,21 @@ final class States {
         + "seen x does q;seen v idle;seen z idle;seen t idle;seen w idle";
 
     private States() {
+    }
+
+    /** All that have a COUNTY. */
+    static List<Supplier<SleepWords>> told() {
+        return List.of(States::lean, States::fresh, States::busy, States::woken, States::brim);
+    }
+
+    /** All that have none. */
+    static List<Supplier<SleepWords>> untold() {
+        return List.of(States::empty, States::none, States::faulted);
+    }
+
+    /** All in which nothing was done yet: no ACT, no IMAGE. */
+    static List<Supplier<SleepWords>> untouched() {
+        return List.of(States::empty, States::none, States::faulted, States::lean, States::fresh);
     }
 
     /** A new object. */

@@ -1,3 +1,7 @@
+import java.util.ArrayList;
+import java.util.Collections;
+import java.util.List;
+import java.util.Random;
 import java.util.function.ToLongFunction;
 
 /** The boundary cases of THE TEXT and its FAULTS: Terms I, sentence by sentence. */
@@ -117,12 +121,33 @@ public final class TextEdgesTest {
         EDGES.county(HEAD + "sleeper abcdefgh plain in 0 frail 1;sleeper abcdefgi plain in 0 frail 1;sleeper bbcdefgh plain in 0 frail 1;"
             + "sleeper abcdefg plain in 0 frail 1;sleeper aabcdefg plain in 0 frail 1", 5);
         EDGES.faulty(HEAD + "sleeper zzzzzzzz plain in 0 frail 1;sleeper @zzzzzzzz", 3);
+        unlikeWords();
         // The signs beside a and z, and great letters.
         for (char sign : new char[] {'`', '{', 'A', 'Z'}) {
             EDGES.faulty(HEAD + "sleeper @" + sign + " plain in 0 frail 1", 1);
             EDGES.faulty(HEAD + "sleeper a@" + sign + " plain in 0 frail 1", 1);
         }
         EDGES.county(HEAD + "sleeper az plain in 0 frail 1;sleeper za plain in 0 frail 1", 2);
+    }
+
+    /** Any two words that aren't the same are two signs. */
+    private static void unlikeWords() {
+        List<String> words = new ArrayList<>();
+        for (char one = 'a'; one <= 'z'; one++) {
+            words.add("" + one);
+            for (char two = 'a'; two <= 'z'; two++) {
+                words.add("" + one + two);
+                words.add("aaaaaa" + one + two);
+                words.add("" + one + two + "zzzzzz");
+            }
+        }
+        Collections.shuffle(words, new Random(8));
+        for (int i = 0; i < 40000; i++) {
+            String one = words.get(i % words.size());
+            String other = words.get((i + 1 + i / words.size()) % words.size());
+            SleepWords x = new SleepWords();
+            EDGES.due("unlike: " + one + " and " + other, Check.tell(x, ONE + "seen " + one + " idle;seen " + other + " idle"), one.equals(other) ? -1 : 1);
+        }
     }
 
     private static void wholeLengths() {
@@ -398,6 +423,7 @@ public final class TextEdgesTest {
             if (!free && !whole) {
                 EDGES.faulty(text + "@" + there.substring(1), 1);
                 EDGES.faulty(text + "@" + there + "s", 1);
+                EDGES.faulty(text + "@x" + there.substring(1), 1);
                 EDGES.faulty(text + "@" + there.substring(0, there.length() - 1) + "x", 1);
             }
             text.append(there).append(' ');
@@ -430,6 +456,9 @@ public final class TextEdgesTest {
         EDGES.faulty(ONE + "before @a b", 2);
         EDGES.faulty(ONE + "order q does r rank 1;seen t does u;before @q r", 2);
         EDGES.faulty(WORDS + "before a @in", 2);
+        String seven = WORDS + "word e odds 1 minutes 1;word f odds 1 minutes 1;word g odds 1 minutes 1;";
+        EDGES.faulty(seven + "before a @h", 2);
+        EDGES.faulty(seven + "before @h a", 2);
     }
 
     private static void otherSort() {

@@ -133,13 +133,14 @@ public final class ToldEdgesTest {
     }
 
     private static void noneSuch() {
-        for (Supplier<SleepWords> state : List.of((Supplier<SleepWords>) States::empty, States::none, States::faulted, States::lean, States::fresh, States::brim)) {
+        for (Supplier<SleepWords> state : States.untouched()) {
             for (int i : new int[] {0, 1, -1, Integer.MIN_VALUE, Integer.MAX_VALUE}) {
                 SleepWords x = state.get();
                 EDGES.dueNoSuchElement("led(" + i + ") of none", x, i);
                 EDGES.same("led(" + i + ")", x, state.get());
             }
         }
+        EDGES.dueNoSuchElement("led(0) of seven words, none said", States.brim(), 0);
         for (int i : new int[] {1, 7, 32, -1, Integer.MIN_VALUE, Integer.MAX_VALUE}) {
             SleepWords x = States.busy();
             EDGES.dueNoSuchElement("led(" + i + ") of one", x, i);

@@ -2,7 +2,8 @@ import java.util.NoSuchElementException;
 
 /**
  * All that an object can tell, down to what undoing and images bring back and what THE TAPE holds, as a text with a line
- * for each answer. Telling it uses the object up. It takes less than 400 calls, so that the object's 512 are enough.
+ * for each answer. Telling it uses the object up: it takes some 350 calls at the most, so that 512 are enough for making
+ * a state, too.
  */
 final class Whole {
     private final SleepWords x;
@@ -66,6 +67,7 @@ final class Whole {
             for (int what : new int[] {0, 1, 2}) {
                 put("awake(" + a + ", " + what + ")", x.awake(a, what));
             }
+            put("worthOf(" + a + ")", x.worthOf(a));
         }
         int words = x.size(4);
         for (int w = 0; w < words; w++) {
@@ -75,6 +77,7 @@ final class Whole {
         }
         put("counts(99)", x.counts(99));
         put("tending()", x.tending());
+        put("left()", x.left());
         put("bestHand()", x.bestHand());
         put("fits()", x.fits());
         put("could()", x.could());

@@ -1,14 +1,8 @@
-import java.util.List;
 import java.util.function.Supplier;
 
 /** The boundary cases of WINTERS and of the promises 40 to 42. */
 public final class WintersEdgesTest {
     private static final Edges EDGES = new Edges("WintersEdgesTest");
-    private static final List<Supplier<SleepWords>> STATES =
-        List.of(States::lean, States::fresh, States::busy, States::woken, States::brim);
-    /** SEED and days of which one is out of bounds. */
-    private static final int[][] WRONG = {{-1, 0}, {65537, 0}, {0, -1}, {0, 91}, {Integer.MIN_VALUE, 0}, {Integer.MAX_VALUE, 0},
-        {0, Integer.MIN_VALUE}, {0, Integer.MAX_VALUE}};
     // SEED becomes itself by 65,536 (36 mod 100), 0 by 45,438.
     private static final int FOR_EVER = 65536;
     private static final int TO_NOUGHT = 45438;
@@ -40,7 +34,9 @@ public final class WintersEdgesTest {
         for (int snow = 0; snow <= 100; snow++) {
             SleepWords x = snowing(snow);
             EDGES.due("snow " + snow + ", 36 each day", x.winters(FOR_EVER, 90), snow > 36 ? 90 : 0);
+            EDGES.due("snow " + snow + ", 36 each day, above()", x.above(89, FOR_EVER, 90), snow > 36 ? 90 : 0);
             EDGES.due("snow " + snow + ", a draw of 0", x.winters(TO_NOUGHT, 1), snow > 0 ? 1 : 0);
+            EDGES.due("snow " + snow + ", a draw of 0, above()", x.above(0, TO_NOUGHT, 1), snow > 0 ? 1 : 0);
             EDGES.due("snow " + snow + ", a draw of 74", x.winters(0, 1), snow > 74 ? 1 : 0);
         }
         // 99 mod 100 is only below 100.
@@ -95,7 +91,7 @@ public final class WintersEdgesTest {
     }
 
     private static void wintersBounds() {
-        for (Supplier<SleepWords> state : STATES) {
+        for (Supplier<SleepWords> state : States.told()) {
             EDGES.told("winters(0, 0)", state, x -> x.winters(0, 0), 0);
             EDGES.told("winters(65536, 0)", state, x -> x.winters(65536, 0), 0);
         }
@@ -121,14 +117,8 @@ public final class WintersEdgesTest {
     }
 
     private static void wintersRefused() {
-        for (int[] wrong : WRONG) {
-            String call = "winters(" + wrong[0] + ", " + wrong[1] + ")";
-            for (Supplier<SleepWords> state : STATES) {
-                EDGES.refused(call, state, x -> x.winters(wrong[0], wrong[1]), -1, 2);
-            }
-            EDGES.needsCounty(call, x -> x.winters(wrong[0], wrong[1]), -1);
-        }
-        EDGES.needsCounty("winters(0, 0)", x -> x.winters(0, 0), -1);
+        EDGES.bounds("winters(, 0)", (x, seed) -> x.winters(seed, 0), -1, 0, 65536);
+        EDGES.bounds("winters(0, )", (x, days) -> x.winters(0, days), -1, 0, 90);
     }
 
     private static void ofOneThen() {
@@ -142,18 +132,11 @@ public final class WintersEdgesTest {
     }
 
     private static void wintersOfRefused() {
-        EDGES.needsCounty("wintersOf(0, 0, 0)", x -> x.wintersOf(0, 0, 0), -1);
-        for (Supplier<SleepWords> state : STATES) {
-            int count = state.get().size(2);
-            EDGES.due("wintersOf the last", state.get().wintersOf(count - 1, 0, 0) >= 0, true);
-            for (int s : new int[] {-1, count, 7, 32, Integer.MIN_VALUE, Integer.MAX_VALUE}) {
-                EDGES.refused("wintersOf(" + s + ", 0, 0)", state, x -> x.wintersOf(s, 0, 0), -1, 1);
-                EDGES.refused("wintersOf(" + s + ", -1, 91)", state, x -> x.wintersOf(s, -1, 91), -1, 1);
-            }
-            for (int[] wrong : WRONG) {
-                EDGES.refused("wintersOf(0, " + wrong[0] + ", " + wrong[1] + ")", state, x -> x.wintersOf(0, wrong[0], wrong[1]), -1, 2);
-            }
-        }
+        EDGES.bounds("wintersOf(0, , 0)", (x, seed) -> x.wintersOf(0, seed, 0), -1, 0, 65536);
+        EDGES.bounds("wintersOf(0, 0, )", (x, days) -> x.wintersOf(0, 0, days), -1, 0, 90);
+        EDGES.oneOf(2, "wintersOf(, 0, 0)", (x, s) -> x.wintersOf(s, 0, 0), -1);
+        // One that isn't there goes ahead of a wrong number.
+        EDGES.refusedAll("wintersOf(, -1, 91)", (x, s) -> x.wintersOf(s, -1, 91), -1, 1, -1, 7);
     }
 
     private static void aboveFirst() {
@@ -186,17 +169,9 @@ public final class WintersEdgesTest {
         EDGES.told("above(25, 65536, 90), awake", States::woken, x -> x.above(25, 65536, 90), 0);
         EDGES.told("above(24, 65536, 90), awake", States::woken, x -> x.above(24, 65536, 90), 1);
     }
-
     private static void aboveRefused() {
-        for (Supplier<SleepWords> state : STATES) {
-            for (int much : new int[] {-1, 10000, Integer.MIN_VALUE, Integer.MAX_VALUE}) {
-                EDGES.refused("above(" + much + ", 0, 0)", state, x -> x.above(much, 0, 0), -1, 2);
-            }
-            for (int[] wrong : WRONG) {
-                EDGES.refused("above(0, " + wrong[0] + ", " + wrong[1] + ")", state, x -> x.above(0, wrong[0], wrong[1]), -1, 2);
-            }
-        }
-        EDGES.needsCounty("above(0, 0, 0)", x -> x.above(0, 0, 0), -1);
-        EDGES.needsCounty("above(-1, 0, 0)", x -> x.above(-1, 0, 0), -1);
+        EDGES.bounds("above(, 0, 0)", (x, much) -> x.above(much, 0, 0), -1, 0, 9999);
+        EDGES.bounds("above(0, , 0)", (x, seed) -> x.above(0, seed, 0), -1, 0, 65536);
+        EDGES.bounds("above(0, 0, )", (x, days) -> x.above(0, 0, days), -1, 0, 90);
     }
 }

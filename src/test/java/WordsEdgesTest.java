@@ -5,9 +5,6 @@ import java.util.function.Supplier;
 public final class WordsEdgesTest {
     private static final Edges EDGES = new Edges("WordsEdgesTest");
     private static final String ONE = Counties.HEAD + "sleeper s plain in 0 frail 1;";
-    private static final int[] NEVER = {-1, 7, 8, 31, 32, 33, Integer.MIN_VALUE, Integer.MAX_VALUE};
-    private static final List<Supplier<SleepWords>> STATES =
-        List.of(States::lean, States::fresh, States::busy, States::woken, States::brim);
 
     public static void main(String[] args) {
         terms();
@@ -26,7 +23,7 @@ public final class WordsEdgesTest {
         EDGES.promise(25, "How likely the right one is said IN so many minutes (0 .. 300) at the best, likewise.", WordsEdgesTest::withinMinutes);
         EDGES.promise(25, "-1: 1 (no COUNTY); 2.", WordsEdgesTest::withinRefused);
         EDGES.promise(26, "The words of it, as bits.", WordsEdgesTest::wordsWithin);
-        EDGES.promise(26, "NONE: 1 (no COUNTY); 2.", WordsEdgesTest::withinWordsRefused);
+        EDGES.promise(26, "NONE: 1 (no COUNTY); 2.", () -> EDGES.bounds("withinWords()", SleepWords::withinWords, -1, 0, 300));
         EDGES.promise(27, "Words that can be said next (not said yet, all that must come before them said), as bits", WordsEdgesTest::nextWords);
         EDGES.promise(27, "0 if they are awake", () -> EDGES.told("next()", States::woken, SleepWords::next, 0));
         EDGES.promise(27, "NONE: 1 (no COUNTY).", () -> EDGES.needsCounty("next()", SleepWords::next, -1));
@@ -180,18 +177,8 @@ public final class WordsEdgesTest {
     }
 
     private static void wordRefused() {
-        EDGES.needsCounty("word(0, 0)", x -> x.word(0, 0), -1);
-        for (Supplier<SleepWords> state : STATES) {
-            int count = state.get().size(4);
-            EDGES.due("the last word", state.get().word(count - 1, 0) > 0, count > 0);
-            EDGES.refused("word(" + count + ", 0)", state, x -> x.word(count, 0), -1, 1);
-            for (int w : NEVER) {
-                EDGES.refused("word(" + w + ", 0)", state, x -> x.word(w, 0), -1, 1);
-            }
-            for (int what : new int[] {-1, 4, Integer.MIN_VALUE, Integer.MAX_VALUE}) {
-                EDGES.refused("word(0, " + what + ")", state, x -> x.word(0, what), -1, 1);
-            }
-        }
+        EDGES.oneOf(4, "word(, 0)", (x, w) -> x.word(w, 0), -1);
+        EDGES.refusedAll("word(0, )", (x, what) -> x.word(0, what), -1, 1, -1, 4, Integer.MIN_VALUE, Integer.MAX_VALUE);
     }
 
     private static void lowestTerms() {
@@ -222,17 +209,8 @@ public final class WordsEdgesTest {
     }
 
     private static void chanceRefused() {
-        for (boolean lower : new boolean[] {false, true}) {
-            EDGES.needsCounty("chance(0)", x -> x.chance(0, lower), -1);
-            for (Supplier<SleepWords> state : STATES) {
-                int count = state.get().size(4);
-                EDGES.due("the last word", state.get().chance(count - 1, lower) >= 0, count > 0);
-                EDGES.refused("chance(" + count + ")", state, x -> x.chance(count, lower), -1, 1);
-                for (int w : NEVER) {
-                    EDGES.refused("chance(" + w + ")", state, x -> x.chance(w, lower), -1, 1);
-                }
-            }
-        }
+        EDGES.oneOf(4, "chance(, false)", (x, w) -> x.chance(w, false), -1);
+        EDGES.oneOf(4, "chance(, true)", (x, w) -> x.chance(w, true), -1);
     }
 
     private static void noMean() {
@@ -281,11 +259,7 @@ public final class WordsEdgesTest {
             int at = i;
             EDGES.refused("searchAt(" + i + "), awake", States::woken, x -> x.searchAt(at), -1, 1);
         }
-        for (Supplier<SleepWords> state : STATES) {
-            for (int i : NEVER) {
-                EDGES.refused("searchAt(" + i + ")", state, x -> x.searchAt(i), -1, 1);
-            }
-        }
+        EDGES.refusedAll("searchAt()", SleepWords::searchAt, -1, 1, -1, 7, 8, 31, 32, 33, Integer.MIN_VALUE, Integer.MAX_VALUE);
         SleepWords x = Check.of(alike(1));
         EDGES.due("searchAt(0), the last word", x.searchAt(0), 0);
         x.say(0);
@@ -307,14 +281,7 @@ public final class WordsEdgesTest {
 
     private static void meanFirstRefused() {
         for (boolean lower : new boolean[] {false, true}) {
-            EDGES.needsCounty("meanFirst(0)", x -> x.meanFirst(0, lower), -1);
-            for (Supplier<SleepWords> state : STATES) {
-                int count = state.get().size(4);
-                EDGES.refused("meanFirst(" + count + ")", state, x -> x.meanFirst(count, lower), -1, 1);
-                for (int w : NEVER) {
-                    EDGES.refused("meanFirst(" + w + ")", state, x -> x.meanFirst(w, lower), -1, 1);
-                }
-            }
+            EDGES.oneOf(4, "meanFirst()", (x, w) -> x.meanFirst(w, lower), -1);
             EDGES.refused("meanFirst(2), ant isn't said", States::fresh, x -> x.meanFirst(2, lower), -1, 5);
             EDGES.refused("meanFirst(3), bee isn't said", States::busy, x -> x.meanFirst(3, lower), -1, 5);
             EDGES.refused("meanFirst(1), said", States::busy, x -> x.meanFirst(1, lower), -1, 5);
@@ -339,6 +306,9 @@ public final class WordsEdgesTest {
         EDGES.told("within(36, false)", States::fresh, x -> x.within(36, false), 10);
         EDGES.told("within(37, false)", States::fresh, x -> x.within(37, false), 1);
         EDGES.told("within(10, true), one said", States::busy, x -> x.within(10, true), 3);
+        SleepWords only = Check.of(words(99, 30));
+        part("the only word, a minute short", only.within(29, false), only.within(29, true), 0, 1);
+        part("the only word", only.within(30, false), only.within(30, true), 1, 1);
         // Likewise: 0 by 1, if none is left or they are awake.
         for (Supplier<SleepWords> state : List.of((Supplier<SleepWords>) States::lean, States::woken)) {
             for (int minutes : new int[] {0, 300}) {
@@ -349,15 +319,8 @@ public final class WordsEdgesTest {
     }
 
     private static void withinRefused() {
-        for (boolean lower : new boolean[] {false, true}) {
-            for (int minutes : new int[] {-1, 301, Integer.MIN_VALUE, Integer.MAX_VALUE}) {
-                for (Supplier<SleepWords> state : STATES) {
-                    EDGES.refused("within(" + minutes + ")", state, x -> x.within(minutes, lower), -1, 2);
-                }
-                EDGES.needsCounty("within(" + minutes + ")", x -> x.within(minutes, lower), -1);
-            }
-            EDGES.needsCounty("within(0)", x -> x.within(0, lower), -1);
-        }
+        EDGES.bounds("within(, false)", (x, minutes) -> x.within(minutes, false), -1, 0, 300);
+        EDGES.bounds("within(, true)", (x, minutes) -> x.within(minutes, true), -1, 0, 300);
     }
 
     private static void wordsWithin() {
@@ -374,16 +337,6 @@ public final class WordsEdgesTest {
         EDGES.told("withinWords(300), seven words", States::brim, x -> x.withinWords(300), 127);
         EDGES.told("withinWords(115), seven words", States::brim, x -> x.withinWords(115), 127);
         EDGES.told("withinWords(114), seven words", States::brim, x -> x.withinWords(114), 95);
-    }
-
-    private static void withinWordsRefused() {
-        for (int minutes : new int[] {-1, 301, Integer.MIN_VALUE, Integer.MAX_VALUE}) {
-            for (Supplier<SleepWords> state : STATES) {
-                EDGES.refused("withinWords(" + minutes + ")", state, x -> x.withinWords(minutes), -1, 2);
-            }
-            EDGES.needsCounty("withinWords(" + minutes + ")", x -> x.withinWords(minutes), -1);
-        }
-        EDGES.needsCounty("withinWords(0)", x -> x.withinWords(0), -1);
     }
 
     private static void nextWords() {
