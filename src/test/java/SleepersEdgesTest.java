@@ -153,6 +153,20 @@ public final class SleepersEdgesTest {
             + "awake p in 0 hands 1 reach 0;awake q in 0 hands 4 reach 0;awake r in 0 hands 2 reach 0");
         EDGES.due("seven tended", all.tending(), 95);
         EDGES.due("seven tended, left()", all.left(), 0);
+        // As many sleepers, awake and hands as can be told.
+        StringBuilder most = new StringBuilder("county lacks 1 snow 100");
+        for (char c = 'a'; c <= 'g'; c++) {
+            most.append(";sleeper ").append(c).append(" old in 0 frail 20");
+        }
+        SleepWords x = Check.of(most + ";awake p in 9 hands 4 reach 9;awake q in 9 hands 4 reach 9;awake r in 9 hands 4 reach 9");
+        EDGES.due("the most, tending()", x.tending(), 280);
+        EDGES.due("the most, bestHand()", x.bestHand(), -2);
+        for (int s = 0; s < 7; s++) {
+            EDGES.due("the most, tendedBy(" + s + ")", x.tendedBy(s), s / 4);
+        }
+        for (int a = 0; a < 3; a++) {
+            EDGES.due("the most, worthOf(" + a + ")", x.worthOf(a), 0);
+        }
     }
 
     private static void likeOnes() {
