@@ -88,6 +88,9 @@ public final class OrdersEdgesTest {
             + "order b does r rank 1;seen a idle"), 1, 4);
         // A sign that was seen isn't asked for, though fewest would be left by it.
         asks("seen ones are no more asked", Check.of(ONE + "order a does p rank 1;order a does q rank 2;order b does p rank 1;seen a does q"), 2, 2);
+        // A sign may be called as a deed of an earlier order, and a deed as an earlier sign: signs alone count.
+        asks("a sign that is a deed too", Check.of(ONE + "order a does b rank 1;order a does b rank 2;order b does c rank 1"), 2, 4);
+        asks("a deed that is a sign too", Check.of(ONE + "order a does p rank 1;order a does p rank 2;order b does a rank 1"), 2, 4);
         // A sign that only was seen has no order to tell of it.
         asks("no order tells of it", Check.of(ONE + "seen a idle"), -2, -2);
         asks("the last order", Check.of(ONE + "order a does p rank 1;order b does p rank 1;order c does p rank 1;order d does p rank 1;"
