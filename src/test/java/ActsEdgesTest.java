@@ -34,11 +34,11 @@ public final class ActsEdgesTest {
     }
 
     private static void terms() {
-        EDGES.term("III", "TEND (an awake one a sleeper, for the day NOW)", ActsEdgesTest::forTheDay);
+        EDGES.term("III", "ACTS: TEND (an awake one a sleeper, for the day NOW)", ActsEdgesTest::forTheDay);
         EDGES.term("III", "DAY (HARM to those not tended; nobody is tended then)", ActsEdgesTest::nobodyThen);
-        EDGES.term("III", "a DRAW mod the odds of all not said: below its own they WAKE", ActsEdgesTest::belowItsOwn);
+        EDGES.term("III", "SAY a word (a DRAW mod the odds of all not said: below its own they WAKE", ActsEdgesTest::belowItsOwn);
         EDGES.term("III", "then nothing more is said or harmed", ActsEdgesTest::nothingMore);
-        EDGES.term("III", "UNDO: all, SEED too, is as ahead of the latest", ActsEdgesTest::seedToo);
+        EDGES.term("III", "SEED. UNDO: all, SEED too, is as ahead of the latest", ActsEdgesTest::seedToo);
         EDGES.term("III", "(16 are kept)", ActsEdgesTest::sixteenKept);
         EDGES.term("III", "IMAGES: up to 3", ActsEdgesTest::threeImages);
         EDGES.term("III", "gone back to one, nothing can be undone", ActsEdgesTest::nothingUndone);

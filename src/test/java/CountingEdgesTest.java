@@ -6,7 +6,7 @@ public final class CountingEdgesTest {
 
     public static void main(String[] args) {
         EDGES.term("II", "(0: 0; if 7 lacks: .. 6, 8, 9, 10, .. 16, 18, ..)", CountingEdgesTest::sevenLacks);
-        EDGES.term("II", "n things are told by the n-th of these", CountingEdgesTest::nthOfThese);
+        EDGES.term("II", "They COUNT by numbers in which that digit isn't: n things are told by the n-th of these", CountingEdgesTest::nthOfThese);
         EDGES.promise(6, "What they COUNT for so many things (0 .. 99,999).", CountingEdgesTest::countsBounds);
         EDGES.promise(6, "NONE: 1 (no COUNTY); 2.", () -> EDGES.bounds("counts()", SleepWords::counts, -1, 0, 99999));
         EDGES.promise(7, "How many things there are, if they COUNT so many (0 .. 999,999)", CountingEdgesTest::reallyBounds);

@@ -5,7 +5,7 @@ public final class EnvoysEdgesTest {
     private static final Edges EDGES = new Edges("EnvoysEdgesTest");
 
     public static void main(String[] args) {
-        EDGES.term("III", "two states send 0 .. 6 each for so much worth", EnvoysEdgesTest::noughtToSix);
+        EDGES.term("III", "ENVOYS: two states send 0 .. 6 each for so much worth", EnvoysEdgesTest::noughtToSix);
         EDGES.term("III", "it goes by envoys, downwards (nothing if none are sent)", EnvoysEdgesTest::downwards);
         EDGES.term("III", "each envoy costs 3", EnvoysEdgesTest::costs);
         EDGES.term("III", "who sends more has 2 besides", EnvoysEdgesTest::twoBesides);

@@ -1,3 +1,4 @@
+import java.util.List;
 import java.util.function.Supplier;
 
 /** The boundary cases of FITS, ASK and TOGETHER and of the promises 29 to 36: orders. */
@@ -13,12 +14,14 @@ public final class OrdersEdgesTest {
         EDGES.promise(30, "NONE: 1 (no COUNTY).", () -> EDGES.needsCounty("could()", SleepWords::could, -1));
         EDGES.promise(31, "Orders that are in all (0, if there are no sets), as bits.", OrdersEdgesTest::inAll);
         EDGES.promise(31, "NONE: 1 (no COUNTY).", () -> EDGES.needsCounty("surely()", SleepWords::surely, -1));
+        EDGES.promise(32, "ASK: the first order that tells of that sign", OrdersEdgesTest::firstOrderOfSign);
         EDGES.promise(32, "-2 all signs were seen, no set", OrdersEdgesTest::nothingToAsk);
         EDGES.promise(32, "NONE: 1 (no COUNTY).", () -> EDGES.needsCounty("ask()", SleepWords::ask, -1));
         EDGES.promise(33, "How many are left at most then; -2 likewise.", OrdersEdgesTest::leftAtMost);
         EDGES.promise(33, "NONE: 1 (no COUNTY).", () -> EDGES.needsCounty("askLeaves()", SleepWords::askLeaves, -1));
         EDGES.promise(34, "The first seen, as told, that isn't so by all orders; -2.", OrdersEdgesTest::notSo);
         EDGES.promise(34, "NONE: 1 (no COUNTY).", () -> EDGES.needsCounty("judge()", SleepWords::judge, -1));
+        EDGES.promise(35, "The order that is done if the signs of these orders, as bits, come TOGETHER", OrdersEdgesTest::signsOfOrders);
         EDGES.promise(35, "(all orders holding); -2 none.", OrdersEdgesTest::noneTogether);
         EDGES.promise(35, "NONE: 1 (no COUNTY, orders).", OrdersEdgesTest::togetherRefused);
         EDGES.promise(36, "Orders with unlike deeds of one sign: the first two: 10 times the lesser and the other one", OrdersEdgesTest::firstTwo);
@@ -28,7 +31,7 @@ public final class OrdersEdgesTest {
     }
 
     private static void terms() {
-        EDGES.term("II", "they do the deed of the order of that sign in the set with the greatest rank", OrdersEdgesTest::greatestRank);
+        EDGES.term("II", "FITS: sets of orders by which all seen are so: to a sign they do the deed of the order of that sign in the set with the greatest rank", OrdersEdgesTest::greatestRank);
         EDGES.term("II", "or nothing, idle, if there is none", OrdersEdgesTest::idle);
         EDGES.term("II", "ASK: the sign, by the first order that tells of it, that wasn't seen", OrdersEdgesTest::byFirstOrder);
         EDGES.term("II", "by which, what they do being told, at most fewest sets are left, the first such", OrdersEdgesTest::fewestLeft);
@@ -166,6 +169,14 @@ public final class OrdersEdgesTest {
         EDGES.due("surely(), in none of all", Check.of(ONE + "order a does p rank 1").surely(), 0);
     }
 
+    private static void firstOrderOfSign() {
+        EDGES.told("ask(), click is told of by 0 and 2", States::busy, SleepWords::ask, 0);
+        EDGES.due("ask(), not the greatest rank", Check.of(ONE + "order a does p rank 1;order b does p rank 1;order b does q rank 9;seen a idle").ask(), 1);
+        EDGES.due("ask(), not the least rank", Check.of(ONE + "order b does p rank 9;order b does q rank 1;order a does p rank 1;seen a idle").ask(), 0);
+        EDGES.due("ask(), the only sign not seen", Check.of(ONE + "order a does p rank 1;order b does p rank 1;order c does q rank 1;order d does p rank 1;"
+            + "seen a idle;seen b does p;seen d idle").ask(), 2);
+    }
+
     private static void nothingToAsk() {
         EDGES.told("ask(), no orders", States::lean, SleepWords::ask, -2);
         EDGES.told("ask()", States::busy, SleepWords::ask, 0);
@@ -201,6 +212,17 @@ public final class OrdersEdgesTest {
         EDGES.due("judge(), a lesser rank", Check.of(orders + "seen b does q;seen a does p").judge(), 1);
         EDGES.due("judge(), idle though there is an order", Check.of(orders + "seen b does q;seen a idle").judge(), 1);
         EDGES.due("judge(), two aren't so", Check.of(orders + "seen c does q;seen a idle").judge(), 0);
+    }
+
+    private static void signsOfOrders() {
+        // click 0 and 2 (ranks 3, 6), cloth 1 (5), bell 3 (5).
+        for (int n = 1; n < 16; n++) {
+            int bits = n;
+            int done = (bits & 5) != 0 ? 2 : (bits & 8) != 0 ? 3 : 1;
+            for (Supplier<SleepWords> state : List.of((Supplier<SleepWords>) States::fresh, States::busy, States::woken)) {
+                EDGES.told("together(" + bits + ")", state, x -> x.together(bits), done);
+            }
+        }
     }
 
     private static void noneTogether() {

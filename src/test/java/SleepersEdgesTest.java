@@ -8,11 +8,12 @@ public final class SleepersEdgesTest {
 
     public static void main(String[] args) {
         terms();
-        EDGES.promise(9, "0 KIND (0 plain, 1 old, 2 hardy, 3 sheep), 1 house, 2 frail", SleepersEdgesTest::sleeperAsTold);
+        EDGES.promise(9, "Of a sleeper 0 KIND (0 plain, 1 old, 2 hardy, 3 sheep), 1 house, 2 frail", SleepersEdgesTest::sleeperAsTold);
         EDGES.promise(9, "3 HARM so far", SleepersEdgesTest::harmSoFar);
         EDGES.promise(9, "4 who tends it NOW (-2)", SleepersEdgesTest::whoTendsNow);
         EDGES.promise(9, "5 by which of the awake it may be tended, as bits", SleepersEdgesTest::byWhichOfTheAwake);
         EDGES.promise(9, "NONE: 1.", SleepersEdgesTest::sleeperRefused);
+        EDGES.promise(10, "Of an awake one 0 house, 1 hands, 2 reach", SleepersEdgesTest::awakeAsTold);
         EDGES.promise(10, "3 whom it tends NOW, as bits, 4 hands free NOW", SleepersEdgesTest::handsNow);
         EDGES.promise(10, "NONE: 1.", SleepersEdgesTest::awakeRefused);
         EDGES.promise(11, "HARM of the day NOW to one, if DAY came.", SleepersEdgesTest::ifDayCame);
@@ -32,7 +33,7 @@ public final class SleepersEdgesTest {
         EDGES.promise(17, "NONE: 1 (no COUNTY).", () -> EDGES.needsCounty("left()", SleepWords::left, -1));
         EDGES.promise(18, "By how much TENDING is less without one of the awake.", SleepersEdgesTest::worth);
         EDGES.promise(18, "NONE: 1.", () -> EDGES.oneOf(3, "worthOf()", SleepWords::worthOf, -1));
-        EDGES.promise(19, "had it a hand more, TENDING is most more, the first such", SleepersEdgesTest::handMore);
+        EDGES.promise(19, "The awake one by whom, had it a hand more, TENDING is most more, the first such", SleepersEdgesTest::handMore);
         EDGES.promise(19, "-2 none.", SleepersEdgesTest::noHandMore);
         EDGES.promise(19, "NONE: 1 (no COUNTY).", () -> EDGES.needsCounty("bestHand()", SleepWords::bestHand, -1));
         EDGES.end(9, 19);
@@ -43,9 +44,10 @@ public final class SleepersEdgesTest {
         EDGES.term("II", "of an old one twice as much", () -> harmsByFrail("old", 2, 1));
         EDGES.term("II", "of a hardy one half (downwards)", () -> harmsByFrail("hardy", 1, 2));
         EDGES.term("II", "of a sheep nothing if another sheep is tended that day", SleepersEdgesTest::anotherSheep);
-        EDGES.term("II", "in houses no further than reach from his own", SleepersEdgesTest::noFurther);
+        EDGES.term("II", "One may tend sleepers in houses no further than reach from his own", SleepersEdgesTest::noFurther);
         EDGES.term("II", "as many as he has hands for", SleepersEdgesTest::asManyHands);
-        EDGES.term("II", "(twice, half by kinds; sheep as plain ones) of those who are tended is greatest", SleepersEdgesTest::greatest);
+        EDGES.term("II", "TENDING: the awake to sleepers so that the sum of frail (twice, half by kinds; sheep as plain ones) of those who are tended is greatest",
+            SleepersEdgesTest::greatest);
         EDGES.term("II", "of like ones the first by sleepers' awake (nobody behind all)", SleepersEdgesTest::likeOnes);
     }
 
@@ -202,6 +204,19 @@ public final class SleepersEdgesTest {
                 EDGES.told("sleeper(" + s + ", " + what + ")", States::brim, x -> x.sleeper(s, what), told[i][j]);
             }
         }
+    }
+
+    private static void awakeAsTold() {
+        int[][] told = {{0, 1, 3}, {9, 4, 0}, {5, 2, 9}};
+        for (int i = 0; i < 3; i++) {
+            for (int j = 0; j < 3; j++) {
+                int a = i;
+                int what = j;
+                // One of the first one's hands tends NOW: its hands as told stay.
+                EDGES.told("awake(" + a + ", " + what + ")", States::brim, x -> x.awake(a, what), told[i][j]);
+            }
+        }
+        EDGES.told("awake(1, 1) when awake", States::woken, x -> x.awake(1, 1), 1);
     }
 
     private static void harmSoFar() {

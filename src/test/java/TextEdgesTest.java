@@ -24,12 +24,12 @@ public final class TextEdgesTest {
     }
 
     private static void tokens() {
-        EDGES.term("I", "THE TAPE has 900 bytes", TextEdgesTest::wholeTape);
+        EDGES.term("I", "THE TEXT of a COUNTY (THE TAPE has 900 bytes", TextEdgesTest::wholeTape);
         EDGES.term("I", "blanks, 32, part TOKENS and mean nothing else", TextEdgesTest::blanks);
-        EDGES.term("I", "WORDS of 1 to 8 small letters that stand together", TextEdgesTest::wordLengths);
+        EDGES.term("I", "TOKENS: WORDS of 1 to 8 small letters that stand together", TextEdgesTest::wordLengths);
         EDGES.term("I", "WHOLES of 1 to 3 digits that do", TextEdgesTest::wholeLengths);
         EDGES.term("I", "single ones of ;", TextEdgesTest::singleOnes);
-        EDGES.term("I", "LINE {; LINE}", TextEdgesTest::linesAndParts);
+        EDGES.term("I", "LINE {; LINE}. LINE, one of:", TextEdgesTest::linesAndParts);
     }
 
     private static void lines() {
@@ -39,7 +39,7 @@ public final class TextEdgesTest {
             TextEdgesTest::sleeperBounds);
         EDGES.term("I", "awake NAME in WHOLE hands WHOLE reach WHOLE (0 .. 9; 1 .. 4; 0 .. 9; up to 3)", TextEdgesTest::awakeBounds);
         EDGES.term("I", "word NAME odds WHOLE minutes WHOLE (1 .. 99; 1 .. 30; up to 7)", TextEdgesTest::wordBounds);
-        EDGES.term("I", "before NAME NAME (two words, unlike; each two once in that order, not the other way round, nor in a ring; up to 8)",
+        EDGES.term("I", "or before NAME NAME (two words, unlike; each two once in that order, not the other way round, nor in a ring; up to 8)",
             TextEdgesTest::beforeBounds);
         EDGES.term("I", "order WORD does WORD rank WHOLE (a sign, a deed, any WORDS; 1 .. 9, unlike ones of one sign; up to 6)",
             TextEdgesTest::orderBounds);
@@ -54,8 +54,8 @@ public final class TextEdgesTest {
     private static void faults() {
         EDGES.term("I", "FAULTS, the first that is met from the left", TextEdgesTest::leftmost);
         EDGES.term("I", "of one place the least number", TextEdgesTest::leastNumber);
-        EDGES.term("I", "the first byte that begins no TOKEN", TextEdgesTest::everyByte);
-        EDGES.term("I", "TOKEN with which no COUNTY goes on", TextEdgesTest::goesNotOn);
+        EDGES.term("I", "1 FORM: the first byte that begins no TOKEN", TextEdgesTest::everyByte);
+        EDGES.term("I", "or TOKEN with which no COUNTY goes on", TextEdgesTest::goesNotOn);
         EDGES.term("I", "(the end: its place)", TextEdgesTest::theEnd);
         EDGES.term("I", "2 a NAME that isn't told", TextEdgesTest::notTold);
         EDGES.term("I", "or is of another sort than must stand there; at it", TextEdgesTest::otherSort);

@@ -8,7 +8,7 @@ public final class ToldEdgesTest {
     private static final Edges EDGES = new Edges("ToldEdgesTest");
 
     public static void main(String[] args) {
-        EDGES.test("## Terms", "`NONE = -1`: There is none; refused.", () -> EDGES.due("NONE", SleepWords.NONE, -1));
+        EDGES.test("## Terms", "The constants: `NONE = -1`: There is none; refused.", () -> EDGES.due("NONE", SleepWords.NONE, -1));
         EDGES.term("IV", "TROUBLE of the latest call that may be refused (those of which a number is told here)", ToldEdgesTest::latestCall);
         EDGES.term("IV", "0 it wasn't; 1 there is none such; 2 a number; 3 no room; 4 a FAULT; 5 not so; 6 there is none", ToldEdgesTest::eachNumber);
         EDGES.promise(50, "The i-th word, by numbers, that was said.", ToldEdgesTest::byNumbers);

@@ -8,7 +8,7 @@ public final class WintersEdgesTest {
     private static final int TO_NOUGHT = 45438;
 
     public static void main(String[] args) {
-        EDGES.term("III", "each day from the day NOW on a DRAW mod 100: below snow", WintersEdgesTest::belowSnow);
+        EDGES.term("III", "WINTERS by a SEED: each day from the day NOW on a DRAW mod 100: below snow", WintersEdgesTest::belowSnow);
         EDGES.term("III", "HARM is done to all whom TENDING doesn't tend", WintersEdgesTest::notTendedByIt);
         EDGES.term("III", "(SEED becomes (75 times SEED and 74) mod 65,537)", WintersEdgesTest::seedBecomes);
         EDGES.promise(40, "All HARM of n days (0 .. 90) by a SEED (0 .. 65,536) from NOW", WintersEdgesTest::wintersBounds);

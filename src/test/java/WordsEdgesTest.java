@@ -8,12 +8,13 @@ public final class WordsEdgesTest {
 
     public static void main(String[] args) {
         terms();
-        EDGES.promise(20, "0 odds, 1 minutes, 2 1 if it was said", WordsEdgesTest::wordAsTold);
+        EDGES.promise(20, "Of a word 0 odds, 1 minutes, 2 1 if it was said", WordsEdgesTest::wordAsTold);
         EDGES.promise(20, "3 words that must come before it (by others too), as bits", WordsEdgesTest::mustComeBefore);
         EDGES.promise(20, "NONE: 1.", WordsEdgesTest::wordRefused);
         EDGES.promise(21, "How likely it is the right one of those not said, the upper WHOLE or the lower, in lowest terms", WordsEdgesTest::lowestTerms);
         EDGES.promise(21, "(0 by 1 if it was said, they are awake)", WordsEdgesTest::noChance);
         EDGES.promise(21, "-1: 1.", WordsEdgesTest::chanceRefused);
+        EDGES.promise(22, "SEARCH: the MEAN, likewise", WordsEdgesTest::meanLikewise);
         EDGES.promise(22, "(0 by 1, if none is left or they are awake)", WordsEdgesTest::noMean);
         EDGES.promise(22, "-1: 1 (no COUNTY).", WordsEdgesTest::meanRefused);
         EDGES.promise(23, "Its i-th word.", WordsEdgesTest::ithWord);
@@ -27,16 +28,17 @@ public final class WordsEdgesTest {
         EDGES.promise(27, "Words that can be said next (not said yet, all that must come before them said), as bits", WordsEdgesTest::nextWords);
         EDGES.promise(27, "0 if they are awake", () -> EDGES.told("next()", States::woken, SleepWords::next, 0));
         EDGES.promise(27, "NONE: 1 (no COUNTY).", () -> EDGES.needsCounty("next()", SleepWords::next, -1));
+        EDGES.promise(28, "How many rows of all words not said yet there are, each behind those that must come before it", WordsEdgesTest::rowsBehindThoseBefore);
         EDGES.promise(28, "(1 if all were said; whether they are awake or not)", WordsEdgesTest::rowsLeft);
         EDGES.promise(28, "NONE: 1 (no COUNTY).", () -> EDGES.needsCounty("rows()", SleepWords::rows, -1));
         EDGES.end(20, 28);
     }
 
     private static void terms() {
-        EDGES.term("III", "all words not said yet in a row, each behind those that must come before it", WordsEdgesTest::behindThoseBefore);
+        EDGES.term("III", "SEARCH, from NOW: all words not said yet in a row, each behind those that must come before it", WordsEdgesTest::behindThoseBefore);
         EDGES.term("III", "the MEAN of minutes till the right one is said (its own minutes too) by odds of those left: the least", WordsEdgesTest::ownMinutesToo);
         EDGES.term("III", "of like ones the first row by words", WordsEdgesTest::likeRows);
-        EDGES.term("III", "that can be said first, one behind the other, in so many minutes or fewer", WordsEdgesTest::orFewer);
+        EDGES.term("III", "IN so many minutes: of sets of words not said yet that can be said first, one behind the other, in so many minutes or fewer", WordsEdgesTest::orFewer);
         EDGES.term("III", "that with the greatest odds together: of like ones the least bits", WordsEdgesTest::leastBits);
     }
 
@@ -213,6 +215,18 @@ public final class WordsEdgesTest {
         EDGES.oneOf(4, "chance(, true)", (x, w) -> x.chance(w, true), -1);
     }
 
+    private static void meanLikewise() {
+        EDGES.told("mean(false)", States::fresh, x -> x.mean(false), 257);
+        EDGES.told("mean(true)", States::fresh, x -> x.mean(true), 11);
+        // bee, dog, cow: 30 * 10 + 10 * 12 + 50 * 32 by 90.
+        EDGES.told("mean(false), ant said", States::busy, x -> x.mean(false), 202);
+        EDGES.told("mean(true), ant said", States::busy, x -> x.mean(true), 9);
+        SleepWords whole = Check.of(words(50, 10, 50, 30));
+        part("a whole mean", whole.mean(false), whole.mean(true), 25, 1);
+        SleepWords lowest = Check.of(words(1, 1, 1, 1));
+        part("lowest terms at once", lowest.mean(false), lowest.mean(true), 3, 2);
+    }
+
     private static void noMean() {
         for (Supplier<SleepWords> state : List.of((Supplier<SleepWords>) States::lean, States::woken)) {
             EDGES.told("mean(false)", state, x -> x.mean(false), 0);
@@ -357,6 +371,22 @@ public final class WordsEdgesTest {
         for (int w = 0; w < 7; w++) {
             EDGES.due("say(" + w + ")", States.brim().say(w) != -1, (73 >> w & 1) == 1);
         }
+    }
+
+    private static void rowsBehindThoseBefore() {
+        // wa, wb, wc and wd, we, wf, wb ahead of wf: 20 but 4; wg in any of 7 places.
+        EDGES.told("rows(), all rooms full", States::brim, SleepWords::rows, 112);
+        EDGES.due("rows(), one behind two", Check.of(alike(3) + ";before a c;before b c").rows(), 2);
+        EDGES.due("rows(), two behind one", Check.of(alike(3) + ";before c a;before c b").rows(), 2);
+        EDGES.due("rows(), six behind one", Check.of(alike(7) + ";before g a;before g b;before g c;before g d;before g e;before g f").rows(), 720);
+        EDGES.due("rows(), a chain of three of seven", Check.of(alike(7) + ";before c b;before b a").rows(), 840);
+        EDGES.due("rows(), by others too", Check.of(alike(3) + ";before c b;before b a;before c a").rows(), 1);
+        // Those that were said are no more in a row, nor waited for.
+        SleepWords x = Check.of(words(10, 1, 20, 1, 70, 1) + ";before a b;before a c");
+        x.seed(65536);
+        EDGES.due("rows() ahead of say(0)", x.rows(), 2);
+        EDGES.due("say(0), 36 mod 100", x.say(0), 0);
+        EDGES.due("rows(), a said", x.rows(), 2);
     }
 
     private static void rowsLeft() {
