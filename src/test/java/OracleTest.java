@@ -37,6 +37,7 @@ public final class OracleTest {
         askOfCounty();
         for (int i = 0; i < 30 && calls < 380; i++) {
             act();
+            wrongCall();
             askOfNow();
         }
     }
@@ -238,6 +239,52 @@ public final class OracleTest {
             model.past.clear();
         }
         dueDone("back(" + i + ")", x.back(i), can ? 0 : 1);
+    }
+
+    /** A refused call, whatever NOW is: what is asked behind it tells that nothing has changed by it. */
+    private void wrongCall() {
+        int s = outside(model.sleepers.size() - 1);
+        int a = outside(model.awake.size() - 1);
+        int w = outside(model.words.size() - 1);
+        int n = outside(90);
+        int seed = outside(65536);
+        boolean lower = random.nextBoolean();
+        switch (random.nextInt(28)) {
+            case 0 -> dueRefused("county", x.county(outside(x.size(13))), 2);
+            case 1 -> dueRefused("counts", x.counts(outside(99999)), 2);
+            case 2 -> dueRefused("really", x.really(outside(999999)), 2);
+            case 3 -> dueRefused("sum", x.sum(outside(99999), 0), 2);
+            case 4 -> dueRefused("sum, the other", x.sum(model.lacks, outside(99999)), 2);
+            case 5 -> dueRefused("sleeper " + s, x.sleeper(s, random.nextInt(6)), 1);
+            case 6 -> dueRefused("sleeper, what", x.sleeper(0, outside(5)), 1);
+            case 7 -> dueRefused("awake " + a, x.awake(a, random.nextInt(5)), 1);
+            case 8 -> dueRefused("awake, what", x.awake(0, outside(4)), 1);
+            case 9 -> dueRefused("harmOf " + s, x.harmOf(s), 1);
+            case 10 -> dueRefused("tendedBy " + s, x.tendedBy(s), 1);
+            case 11 -> dueRefused("worthOf " + a, x.worthOf(a), 1);
+            case 12 -> dueRefused("word " + w, x.word(w, random.nextInt(4)), 1);
+            case 13 -> dueRefused("word, what", x.word(0, outside(3)), 1);
+            case 14 -> dueRefused("chance " + w, x.chance(w, lower), 1);
+            case 15 -> dueRefused("meanFirst " + w, x.meanFirst(w, lower), 1);
+            case 16 -> dueRefused("within", x.within(outside(300), lower), 2);
+            case 17 -> dueRefused("withinWords", x.withinWords(outside(300)), 2);
+            case 18 -> dueRefused("searchAt " + w, x.searchAt(w), 1);
+            case 19 -> dueRefused("winters, SEED", x.winters(seed, 90), 2);
+            case 20 -> dueRefused("winters, days", x.winters(65536, n), 2);
+            case 21 -> dueRefused("wintersOf " + s, x.wintersOf(s, seed, n), 1);
+            case 22 -> dueRefused("wintersOf, SEED and days", x.wintersOf(0, lower ? seed : 0, n), 2);
+            case 23 -> dueRefused("above", x.above(outside(9999), 0, 0), 2);
+            case 24 -> dueDone("tend " + a + ", " + s, x.tend(lower ? a : 0, s), 1);
+            case 25 -> dueDone("seed " + seed, x.seed(seed), 2);
+            case 26 -> dueDone("back", x.back(outside(model.images.size() - 1)), 1);
+            default -> dueRefused("say " + w, x.say(w), 1);
+        }
+    }
+
+    /** A number that isn't one of 0 .. most. */
+    private int outside(int most) {
+        int[] numbers = {-1, most + 1, most + 2, -2 - random.nextInt(100), most + 1 + random.nextInt(1000), Integer.MIN_VALUE, Integer.MAX_VALUE};
+        return numbers[random.nextInt(numbers.length)];
     }
 
     private void askOfNow() {
